@@ -405,10 +405,9 @@ public final class ShireWays {
 
         void addWalk(int witness, int kind, int from, int to) {
             int bit = 1 << witness;
-            for (int year = from; year <= to && year < YEARS; year++) {
-                int slot = kind * YEARS + year;
-                put(went, slot, at(went, slot) | bit);
-            }
+            int slot = kind * YEARS + from;
+            int lastSlot = kind * YEARS + to;
+            for (; slot >= 0 && slot <= lastSlot && slot < went.length; slot++) went[slot] |= bit;
         }
 
         void addBreak(int year) {

@@ -31,6 +31,9 @@ public final class PromisesTest {
         for (int what = 0; what <= 3; what++) due(1, "total", x.total(what), 0);
         due(1, "page", x.page(0, 7, 0), UNKNOWN);
         due(1, "force of no way", x.force(0, 0, 0, NONE), UNKNOWN);
+        int[] constants = {UNKNOWN, BAD, STATE, FULL, NONE, CAST};
+        int[] dueOnes = {-1, -2, -3, -4, -9, -13};
+        for (int i = 0; i < constants.length; i++) due(1, "constant", constants[i], dueOnes[i]);
         due(1, "first way", x.way(0, 1), 0);
         due(1, "first page", x.statute(1, 1, 0, 1), 0);
         ShireWays other = new ShireWays();
@@ -349,6 +352,37 @@ public final class PromisesTest {
         x.broke(0, 90);
         due(16, "a break outside of the span", x.force(0, 0, 95, NONE), 1);
         refusals(16);
+        ShireWays y = withWays(1);
+        y.paper(0, 0, 9);
+        due(16, "nine, ahead of any statute", y.force(0, 0, 0, NONE), 0);
+        y.paper(0, 0, 1);
+        due(16, "ten, ahead of any statute", y.force(0, 0, 0, NONE), 2);
+        due(17, "foot alone", y.most(0, 0, NONE), 0);
+        y.statute(1, 1, 0, 11);
+        due(16, "ten of eleven", y.force(0, 0, 0, NONE), 0);
+        due(16, "as of a page ahead of the statute", y.force(0, 0, 0, 1), 2);
+        y.strike(2);
+        due(16, "the statute struck", y.force(0, 0, 0, NONE), 2);
+    }
+
+    private static void ordersNotInTheirOrder() {
+        ShireWays x = withWays(1);
+        x.stop(0, 40, 30);
+        x.make(0, 0, 30, 30);
+        x.stop(0, 20, 30);
+        x.make(0, 0, 10, 30);
+        for (int order = 0; order < 4; order++) due(19, "all are good", x.good(order, NONE), 1);
+        due(16, "made", x.force(0, 0, 10, NONE), 3);
+        due(16, "stopped", x.force(0, 0, 20, NONE), 0);
+        due(16, "made", x.force(0, 0, 39, NONE), 3);
+        due(16, "stopped", x.force(0, 0, 40, NONE), 0);
+        due(19, "nothing to stop as of it", x.good(0, 0), 0);
+        due(19, "nothing to stop as of it", x.good(2, 2), 0);
+        due(19, "made already", x.good(1, NONE), 1);
+        x.strike(2);
+        due(19, "made already, the stop struck", x.good(1, NONE), 0);
+        x.make(0, 0, 20, 30);
+        due(19, "made already in 10", x.good(5, NONE), 0);
     }
 
     private static void forceByOrders() {
@@ -464,6 +498,25 @@ public final class PromisesTest {
         refusals(21);
         due(21, "an empty book", withWays(1).lean(0, 0, 0, 0, NONE), NONE);
         leaningOnOrders();
+        leaningAskedInTurn();
+    }
+
+    private static void leaningAskedInTurn() {
+        ShireWays x = withWays(2);
+        x.make(0, 0, 10, 30);
+        x.make(1, 1, 10, 30);
+        x.make(0, 1, 20, 30);
+        for (int turn = 0; turn < 2; turn++) {
+            due(21, "page 0", x.lean(0, 0, 0, 10, NONE), 0);
+            due(21, "another kind", x.lean(0, 0, 1, 10, NONE), NONE);
+            due(21, "another year", x.lean(0, 0, 1, 20, NONE), 2);
+            due(21, "another page as of", x.lean(0, 0, 1, 20, 1), NONE);
+            due(21, "another way", x.lean(0, 1, 1, 20, 1), 1);
+            due(21, "the way again", x.lean(0, 0, 0, 10, NONE), 0);
+        }
+        x.strike(0);
+        due(21, "the book has grown", x.lean(0, 0, 0, 10, NONE), 3);
+        due(21, "as of the page ahead", x.lean(0, 0, 0, 10, 2), 0);
     }
 
     private static void leaningOnOrders() {
@@ -581,6 +634,7 @@ public final class PromisesTest {
         spans();
         forceByUseAndPapers();
         forceByOrders();
+        ordersNotInTheirOrder();
         mostSinceGood();
         leaning();
         rows();
