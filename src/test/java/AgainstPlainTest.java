@@ -1,7 +1,11 @@
 /** Runs of calls, the same at every time, answered by ShireWays and by PlainShire. */
 public final class AgainstPlainTest {
-    private static final int RUNS = 700;
+    private static final int RUNS = 840;
     private static final int MOST_WRONG = 20;
+
+    // The years at and beside the ends of what years and spans there are.
+    private static final int[] EDGES = {0, 1, 2, 19, 20, 38, 39, 40, 41, 60, 98, 99, 100};
+    private static final int[] EDGES_OF_DAYS = {0, 27, 28, 28, 29, 364, 365};
 
     // A run has its own ranges, so that walks, orders and papers meet on few ways and in few years.
     private static final class Run {
@@ -14,8 +18,8 @@ public final class AgainstPlainTest {
         Run(int number) {
             this.number = number;
             state = number * 7919L + 13;
-            style = number % 6;
-            ways = style == 0 ? 12 : 1 + next(4);
+            style = number % 7;
+            ways = style == 0 ? 12 : style == 6 ? 1 + next(2) : 1 + next(4);
             years = style == 1 ? 101 : 8 + next(40);
             witnesses = 2 + next(19);
             wrongOneIn = style == 2 ? 6 : 60;
@@ -52,7 +56,17 @@ public final class AgainstPlainTest {
         }
 
         int year() {
-            return within(0, years - 1);
+            return style == 6 && !isWrong() ? EDGES[next(EDGES.length)] : within(0, years - 1);
+        }
+
+        int lastYear(int from) {
+            if (isWrong()) return wrong();
+            return style == 6 ? Math.max(from, year()) : Math.min(from + next(30), 100);
+        }
+
+        /** A number of a statute, which stands at one of its ends where runs look at edges. */
+        int statuteNumber(int least, int most) {
+            return style == 6 && !isWrong() ? next(2) == 0 ? least : most : within(least, most);
         }
 
         int page() {
@@ -64,6 +78,7 @@ public final class AgainstPlainTest {
         }
 
         int days() {
+            if (style == 6) return EDGES_OF_DAYS[next(EDGES_OF_DAYS.length)];
             return next(5) == 0 ? next(28) : next(20) == 0 ? 28 : within(28, 365);
         }
     }
@@ -90,7 +105,7 @@ public final class AgainstPlainTest {
         int pick = r.next(r.style == 3 ? 15 : 12);
         int w = r.way(), k = r.kind(), y = r.year();
         if (pick < 5) {
-            int who = r.within(0, r.witnesses - 1), to = r.isWrong() ? r.wrong() : Math.min(y + r.next(30), 100);
+            int who = r.within(0, r.witnesses - 1), to = r.lastYear(y);
             same(r, "walk", r.x.walk(who, w, k, y, to), r.plain.walk(who, w, k, y, to), who, w, k, y, to);
         } else if (pick == 5) {
             int weight = r.within(1, 9);
@@ -114,8 +129,8 @@ public final class AgainstPlainTest {
     }
 
     private static void addStatute(Run r) {
-        int n = r.next(3) == 0 ? r.within(1, 40) : r.within(1, 8), p = r.within(1, 4);
-        int g = r.within(0, r.next(2) * 5), w = r.within(1, 30);
+        int n = r.next(3) == 0 ? r.statuteNumber(1, 40) : r.within(1, 8), p = r.statuteNumber(1, 4);
+        int g = r.statuteNumber(0, r.next(2) * 5), w = r.statuteNumber(1, 30);
         same(r, "statute", r.x.statute(n, p, g, w), r.plain.statute(n, p, g, w), n, p, g, w);
     }
 

@@ -177,7 +177,7 @@ public final class PromisesTest {
         due(9, "full", full().statute(1, 1, 0, 1), FULL);
     }
 
-    private static void pages() {
+    private static ShireWays oneOfEach() {
         ShireWays x = withWays(3);
         x.walk(7, 1, 2, 30, 40);
         x.paper(2, 1, 6);
@@ -186,6 +186,10 @@ public final class PromisesTest {
         x.make(2, 0, 70, 28);
         x.statute(11, 3, 4, 29);
         x.strike(2);
+        return x;
+    }
+
+    private static void pages() {
         int n = NONE;
         int[][] told = {{0, 1, 2, 30, 40, 7, n, n, n, n, n, n}, {1, 2, 1, n, n, n, 6, n, n, n, n, n},
             {2, 1, n, 50, n, n, n, n, n, n, n, n}, {3, 1, n, 60, n, n, n, 27, n, n, n, n},
@@ -193,6 +197,7 @@ public final class PromisesTest {
             {5, n, n, n, n, n, n, n, 2, n, n, n}};
         int[][] sortsTaken = {{0, 7}, {1, 7}, {2, 7}, {3, 7}, {3, 4, 7}, {6, 7}, {5, 7}};
         for (int page = 0; page < told.length; page++) {
+            ShireWays x = oneOfEach();
             for (int sort = 0; sort <= 7; sort++) {
                 boolean taken = false;
                 for (int s : sortsTaken[page]) taken |= s == sort;
@@ -207,8 +212,8 @@ public final class PromisesTest {
             due(10, "what", x.page(page, 7, -1), BAD);
             due(10, "bad ahead of another sort", x.page(page, (page + 1) % 3, 12), BAD);
         }
-        due(10, "no page", x.page(7, 8, 12), UNKNOWN);
-        due(10, "NONE", x.page(NONE, 7, 0), UNKNOWN);
+        due(10, "no page", oneOfEach().page(7, 8, 12), UNKNOWN);
+        due(10, "NONE", oneOfEach().page(NONE, 7, 0), UNKNOWN);
     }
 
     private static void counting() {

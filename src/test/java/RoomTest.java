@@ -4,6 +4,9 @@ import java.lang.management.ManagementFactory;
 /** What a run makes: the rows of the constructor alone, and nothing in any call. */
 public final class RoomTest {
     private static final int MOST_BYTES_OF_A_NEW_ONE = 32_000;
+
+    // An object is used for 512 calls at most: some 120 that write, and 16 in each round of those that ask.
+    private static final int OBJECTS = 10, ROUNDS = 22;
     private static final ThreadMXBean ROOM = (ThreadMXBean) ManagementFactory.getThreadMXBean();
 
     private static long made() {
@@ -38,12 +41,16 @@ public final class RoomTest {
         sum += write(warm) + ask(warm, 0);
         made();
         long ahead = made();
-        ShireWays x = new ShireWays();
-        long whole = made() - ahead;
+        ShireWays[] all = new ShireWays[OBJECTS];
+        ahead = made();
+        for (int i = 0; i < OBJECTS; i++) all[i] = new ShireWays();
+        long whole = (made() - ahead) / OBJECTS;
         if (whole > MOST_BYTES_OF_A_NEW_ONE) wrong++;
         ahead = made();
-        sum += write(x);
-        for (int round = 0; round < 200; round++) sum += ask(x, round);
+        for (int i = 0; i < OBJECTS; i++) {
+            sum += write(all[i]);
+            for (int round = 0; round < ROUNDS; round++) sum += ask(all[i], ROUNDS * i + round);
+        }
         long inCalls = made() - ahead;
         if (inCalls != 0) wrong++;
         System.out.println("a new one makes " + whole + " bytes, its calls " + inCalls + " (answers' sum " + sum + ")");
