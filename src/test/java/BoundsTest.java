@@ -981,6 +981,20 @@ public final class BoundsTest {
         due(x.way(0, 1), 0);
     }
 
+    private static void walkYears() {
+        says("Promise 3: BAD: kind, from is not 0 .. to, to above 100");
+        int[][] taken = {{0, 0}, {0, 100}, {99, 100}, {100, 100}, {5, 5}, {4, 5}};
+        int[][] bad = {{-1, 0}, {-1, -1}, {0, -1}, {1, 0}, {5, 4}, {100, 99}, {100, 101}, {101, 101}, {0, 101},
+            {101, 100}, {LEAST, 0}, {LEAST, LEAST}, {0, LEAST}, {0, GREATEST}, {GREATEST, GREATEST},
+            {LEAST, GREATEST}, {GREATEST, LEAST}, {NONE, 5}, {5, NONE}};
+        ShireWays x = ways(1);
+        for (int[] w : bad) due(x.walk(0, 0, 0, w[0], w[1]), BAD, w);
+        for (int i = 0; i < taken.length; i++) due(x.walk(0, 0, 0, taken[i][0], taken[i][1]), i, taken[i]);
+        for (int[] w : bad) due(x.walk(0, 0, 0, w[0], w[1]), BAD, w);
+        for (int kind : new int[] {-1, 3, NONE, LEAST, GREATEST}) due(x.walk(0, 0, kind, 5, 5), BAD, kind);
+        due(x.total(1), taken.length);
+    }
+
     private static void pageTells() {
         says("Promise 10: A PAGE taken as of a SORT (0, 1, 2, 5, 6: just these; 3: an ORDER; 4; 7: any); NONE: it has"
                 + " none such.");
@@ -1268,6 +1282,7 @@ public final class BoundsTest {
         noneIsAPageAsOf();
         refusedChangesNothing();
         newObject();
+        walkYears();
         pageTells();
         counts();
         lackingNone();

@@ -235,6 +235,7 @@ public final class RefusalsTest {
             used.renew();
         } else {
             due(s, row, a, "answered " + got + ", a refusal?", got >= 0 || got == NONE ? 1 : 0, 1);
+            due(s, row, a, "answered behind refused calls", got, row.call.answer(s.made(), a));
         }
     }
 
