@@ -503,6 +503,30 @@ public final class BoundsTest {
         }
     }
 
+    private static void noneIsAllPages() {
+        says("(NONE as p: all PAGES), while the book grows from the first page to the last");
+        ShireWays x = ways(1);
+        due(x.papers(0, 0, NONE), 0);
+        for (int page = 0; page < 100; page++) {
+            due(x.paper(0, 0, 1), page);
+            due(x.papers(0, 0, page), page + 1, page);
+            due(x.papers(0, 0, NONE), page + 1, page);
+            due(x.papers(0, 0, page + 1), UNKNOWN, page);
+        }
+        due(x.papers(0, 0, 0), 1);
+        due(x.papers(0, 0, 99), 100);
+        for (int as = 0; as < 6; as++) {
+            ShireWays grown = ways(1);
+            due(grown.papers(0, 0, NONE), 0, as);
+            for (int page = 0; page < 6; page++) grown.paper(0, 0, 1);
+            due(grown.papers(0, 0, as), as + 1, as);
+            due(grown.lean(0, 0, 0, 0, NONE), NONE, as);
+            for (int page = 6; page < 12; page++) grown.paper(0, 0, 1);
+            due(grown.papers(0, 0, as + 6), as + 7, as);
+            due(grown.lean(0, 0, 0, 0, as + 6), as + 6 == 9 ? 0 : NONE, as);
+        }
+    }
+
     // ---- Terms 2
 
     private static void spanYears() {
@@ -1258,6 +1282,7 @@ public final class BoundsTest {
         asOfAPage();
         latestStatute();
         noPagesAtAll();
+        noneIsAllPages();
     }
 
     private static void terms2() {
